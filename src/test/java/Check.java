@@ -1,4 +1,7 @@
-/** Compares answers with the ones that are due, and ends a test with exit code 1 if one was wrong. */
+/**
+ * Compares answers with the ones that are due, sentence by sentence of the document, and ends a
+ * test with exit code 1 if one was wrong.
+ */
 final class Check {
     static final int MAX = 2147483647;
     static final int MIN_INT = -2147483648;
@@ -7,33 +10,60 @@ final class Check {
     static final int NONE = -3;
 
     private final String test;
-    private int asked;
+    private String sentence = "";
+    private int sentences;
+    private int askedInAll;
+    private int askedHere;
     private int wrong;
 
     Check(String test) {
         this.test = test;
     }
 
+    /** The answers that follow are due by this sentence, or part of one, of the document. */
+    void sentence(String words) {
+        endSentence();
+        sentences++;
+        sentence = "\"" + words + "\" ";
+    }
+
     void due(String what, long got, long want) {
-        asked++;
+        asked();
         if (got != want) {
-            wrong++;
-            System.out.println(test + ": " + what + " answered " + got + ", due is " + want);
+            tellWrong(what + " answered " + got + ", due is " + want);
         }
     }
 
     void due(String what, Object got, Object want) {
-        asked++;
+        asked();
         if (!got.equals(want)) {
-            wrong++;
-            System.out.println(test + ": " + what + " is " + got + ", due is " + want);
+            tellWrong(what + " is " + got + ", due is " + want);
         }
     }
 
     void finish() {
-        System.out.println(test + ": " + asked + " answers, " + wrong + " wrong");
-        if (wrong != 0 || asked == 0) {
+        endSentence();
+        System.out.println(test + ": " + sentences + " sentences, " + askedInAll + " answers, " + wrong + " wrong");
+        if (wrong != 0 || askedInAll == 0) {
             System.exit(1);
         }
+    }
+
+    private void asked() {
+        askedInAll++;
+        askedHere++;
+    }
+
+    private void tellWrong(String what) {
+        wrong++;
+        System.out.println(test + ": " + sentence + what);
+    }
+
+    /** A sentence that nothing was asked of has no test. */
+    private void endSentence() {
+        if (!sentence.isEmpty() && askedHere == 0) {
+            tellWrong("has no test");
+        }
+        askedHere = 0;
     }
 }

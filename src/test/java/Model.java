@@ -6,8 +6,7 @@ import java.util.Map;
 
 /**
  * The document told a second time, with the Java library and without care for room or speed: what
- * ModelTest compares GroupLedger with. Arguments are in their ranges, but for what the tests of
- * the promises look at by themselves.
+ * ModelTest compares GroupLedger with.
  */
 final class Model {
     record Account(int number) {
@@ -44,29 +43,47 @@ final class Model {
     private Integer spent;
     private Integer done;
 
-    int valueOf(String name) {
+    private int valueOf(String name) {
         return state.getOrDefault(name, 0);
+    }
+
+    private static boolean outside(int n, int highest) {
+        return n < 0 || n > highest;
     }
 
     int mint(int account, int amount) {
         long sum = (long) valueOf("balance " + account) + amount;
-        if (sum > Integer.MAX_VALUE) {
+        if (outside(account, 5) || amount < 0 || sum > Integer.MAX_VALUE) {
             return -1;
         }
         state.put("balance " + account, (int) sum);
         return (int) sum;
     }
 
-    int emit(String code, int a) {
+    private static boolean operandFits(String code, int a) {
+        return switch (code) {
+            case "NUM" -> a >= 0;
+            case "ACCOUNT" -> !outside(a, 5);
+            case "ARG", "LGET", "LPUT" -> !outside(a, 1);
+            case "GOTO", "IF" -> !outside(a, 31);
+            case "GET", "PUT", "LOAD", "STORE", "PEER" -> !outside(a, 3);
+            default -> true;
+        };
+    }
+
+    int emit(int code, int a) {
+        if (outside(code, 30) || !operandFits(Scene.CODES.get(code), a)) {
+            return -1;
+        }
         if (lines.size() == 32) {
             return -2;
         }
-        lines.add(new Line(code, a));
+        lines.add(new Line(Scene.CODES.get(code), a));
         return lines.size() - 1;
     }
 
     int deploy(int app) {
-        if (lines.isEmpty()) {
+        if (outside(app, 3) || lines.isEmpty()) {
             return -1;
         }
         programs.put(app, lines);
@@ -75,7 +92,17 @@ final class Model {
         return programs.get(app).size();
     }
 
-    int enter(Entry entry) {
+    int pay(int from, int to, int amount) {
+        boolean wrong = outside(from, 5) || outside(to, 5) || amount < 0;
+        return wrong ? -1 : enter(new Entry(true, from, to, amount, 0, 0, null));
+    }
+
+    int call(int from, int app, int kind, int x, int y) {
+        boolean wrong = outside(from, 5) || outside(app, 3) || outside(kind, 2) || x < 0 || y < 0;
+        return wrong ? -1 : enter(new Entry(false, from, 0, 0, app, kind, new int[] {x, y}));
+    }
+
+    private int enter(Entry entry) {
         if (entries.size() == 4) {
             return -2;
         }
@@ -122,7 +149,19 @@ final class Model {
         return answer;
     }
 
+    int balance(int account) {
+        return outside(account, 5) ? -1 : valueOf("balance " + account);
+    }
+
+    int global(int app, int k) {
+        return outside(app, 3) || outside(k, 3) ? -1 : valueOf("global " + app + " " + k);
+    }
+
     int least(int account) {
+        return outside(account, 5) ? -1 : leastOf(account);
+    }
+
+    private int leastOf(int account) {
         int apps = 0;
         for (int app = 0; app < 4; app++) {
             apps += valueOf("opted " + app + " " + account);
@@ -131,20 +170,29 @@ final class Model {
     }
 
     int local(int app, int account, int k) {
+        if (outside(app, 3) || outside(account, 5) || outside(k, 1)) {
+            return -1;
+        }
         boolean opted = valueOf("opted " + app + " " + account) == 1;
         return opted ? valueOf("local " + app + " " + account + " " + k) : -3;
     }
 
     int report(int what) {
+        if (outside(what, 3)) {
+            return -1;
+        }
         Integer answer = new Integer[] {faultPlace, faultLine, spent, done}[what];
         return answer == null ? -3 : answer;
     }
 
     int logged(int k) {
-        return k < 8 && k < logs.size() ? logs.get(logs.size() - 1 - k) : -3;
+        return !outside(k, 7) && k < logs.size() ? logs.get(logs.size() - 1 - k) : -3;
     }
 
     int count(int what) {
+        if (outside(what, 8)) {
+            return -1;
+        }
         int[] first = {lines.size(), entries.size(), good, bad, logs.size()};
         return what < 5 ? first[what] : programs.getOrDefault(what - 5, List.of()).size();
     }
@@ -176,8 +224,8 @@ final class Model {
         } else {
             carryOutCall(entry, place);
         }
-        must(valueOf(sender) >= least(entry.from()), 10);
-        must(!entry.payment() || valueOf("balance " + entry.to()) >= least(entry.to()), 10);
+        must(valueOf(sender) >= leastOf(entry.from()), 10);
+        must(!entry.payment() || valueOf("balance " + entry.to()) >= leastOf(entry.to()), 10);
     }
 
     private void carryOutCall(Entry entry, int place) {

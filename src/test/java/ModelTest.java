@@ -2,36 +2,53 @@ import java.util.ArrayList;
 import java.util.Arrays;
 import java.util.List;
 
-/** Long runs of mixed calls, the same in every run of the test, on GroupLedger and on Model. */
+/**
+ * Runs of mixed calls, the same in every run of the test, on GroupLedger and on Model. No object is
+ * used for more than the 512 calls of which the document speaks.
+ */
 final class ModelTest {
-    private static final int RUNS = 400;
-    private static final int CALLS = 500;
+    private static final int RUNS = 4000;
+    private static final int CALLS = 512;
+    /** The calls of compareAll, and the most that one round of go makes. */
+    private static final int LOOK = 101;
+    private static final int ROUND = 40;
 
     private final Check check;
     private final GroupLedger ledger = new GroupLedger();
     private final Model model = new Model();
-    private final int[] faultsSeen;
+    private final int[] answersSeen;
     private final String name;
+    private int used;
     private long seed;
 
-    private ModelTest(Check check, int run, int[] faultsSeen) {
+    private ModelTest(Check check, int run, int[] answersSeen) {
         this.check = check;
         this.name = "run " + run + ": ";
         this.seed = 7919L * run + 17;
-        this.faultsSeen = faultsSeen;
+        this.answersSeen = answersSeen;
     }
 
     public static void main(String[] args) {
-        Check check = new Check("model");
-        int[] faultsSeen = new int[11];
+        Check check = new Check("model (all promises)");
+        int[] answersSeen = new int[11];
+        int most = 0;
         for (int run = 0; run < RUNS; run++) {
-            new ModelTest(check, run, faultsSeen).go();
+            ModelTest test = new ModelTest(check, run, answersSeen);
+            test.go();
+            most = Math.max(most, test.used);
         }
-        System.out.println("model: submits by their answer " + Arrays.toString(faultsSeen));
+        System.out.println("model: submits by their answer " + Arrays.toString(answersSeen));
         for (int fault = 0; fault <= 10; fault++) {
-            check.due("submits that ended with " + fault + " are many", faultsSeen[fault] > 20, true);
+            check.due("submits that ended with " + fault + " are many", answersSeen[fault] > 20, true);
         }
+        check.due("no object is used for more than 512 calls", most <= CALLS, true);
         check.finish();
+    }
+
+    /** Each comparison is one call of the object. */
+    private void due(String call, int got, int want) {
+        used++;
+        check.due(name + call, got, want);
     }
 
     /** A generator of its own, so that every machine makes the same calls. */
@@ -45,58 +62,97 @@ final class ModelTest {
         return below(3) == 0 ? edges[below(edges.length)] : below(40);
     }
 
+    /** The number that is meant, or now and then one that is mostly out of its range. */
+    private int rarelyWrong(int meant) {
+        int[] wrong = {-1, Check.MIN_INT, Check.MAX, 2, 3, 4, 6, 9, 31, 32};
+        return below(50) == 0 ? wrong[below(wrong.length)] : meant;
+    }
+
     private void go() {
         for (int account = 0; account < 6; account++) {
             mint(account, account == 5 ? below(12) : 60 + below(400));
         }
         if (below(4) == 0) {
-            mint(4, Check.MAX - ledger.balance(4) - below(30));
+            mint(4, Check.MAX - model.balance(4) - below(30));
         }
-        for (int calls = 7; calls < CALLS; calls++) {
+        int programs = 2 + below(3);
+        for (int app = 0; app < programs; app++) {
+            deployNewProgram(app);
+        }
+        while (used + ROUND + LOOK <= CALLS) {
             int choice = below(100);
             if (choice < 4) {
                 mint(below(6), below(8) == 0 ? number() : below(60));
-            } else if (choice < 14) {
+            } else if (choice < 12) {
                 deployNewProgram(below(4));
-            } else if (choice < 34) {
+            } else if (choice < 32) {
                 pay(below(6), below(6), below(4) == 0 ? number() : below(30));
-            } else if (choice < 70) {
+            } else if (choice < 68) {
                 call(below(6), below(4), below(5) % 3);
-            } else if (choice < 98) {
+            } else if (choice < 94) {
                 submit();
+            } else if (choice < 96) {
+                due("discard", ledger.discard(), model.discard());
             } else {
-                check.due(name + "discard", ledger.discard(), model.discard());
+                lookAnywhere();
             }
-        }
-    }
-
-    private void mint(int account, int amount) {
-        check.due(name + "mint", ledger.mint(account, amount), model.mint(account, amount));
-    }
-
-    private void pay(int from, int to, int amount) {
-        Model.Entry entry = new Model.Entry(true, from, to, amount, 0, 0, null);
-        check.due(name + "pay", ledger.pay(from, to, amount), model.enter(entry));
-    }
-
-    private void call(int from, int app, int kind) {
-        int x = number();
-        int y = number();
-        Model.Entry entry = new Model.Entry(false, from, 0, 0, app, kind, new int[] {x, y});
-        check.due(name + "call", ledger.call(from, app, kind, x, y), model.enter(entry));
-    }
-
-    private void submit() {
-        int fault = model.submit();
-        check.due(name + "submit", ledger.submit(), fault);
-        if (fault >= 0) {
-            faultsSeen[fault]++;
         }
         compareAll();
     }
 
+    private void mint(int account, int amount) {
+        int to = rarelyWrong(account);
+        int n = rarelyWrong(amount);
+        due("mint", ledger.mint(to, n), model.mint(to, n));
+    }
+
+    private void pay(int from, int to, int amount) {
+        int sender = rarelyWrong(from);
+        int receiver = rarelyWrong(to);
+        int n = rarelyWrong(amount);
+        due("pay", ledger.pay(sender, receiver, n), model.pay(sender, receiver, n));
+    }
+
+    private void call(int from, int app, int kind) {
+        int sender = rarelyWrong(from);
+        int of = rarelyWrong(app);
+        int sort = rarelyWrong(kind);
+        int x = rarelyWrong(number());
+        int y = rarelyWrong(number());
+        due("call", ledger.call(sender, of, sort, x, y), model.call(sender, of, sort, x, y));
+    }
+
+    private void submit() {
+        int answer = model.submit();
+        due("submit", ledger.submit(), answer);
+        if (answer >= 0) {
+            answersSeen[answer]++;
+        }
+        for (int what = 0; what < 4; what++) {
+            due("report " + what, ledger.report(what), model.report(what));
+        }
+        lookAnywhere();
+    }
+
+    private void lookAnywhere() {
+        int account = rarelyWrong(below(6));
+        int app = rarelyWrong(below(4));
+        int k = rarelyWrong(below(4));
+        int local = rarelyWrong(below(2));
+        int what = rarelyWrong(below(9));
+        due("balance " + account, ledger.balance(account), model.balance(account));
+        due("least " + account, ledger.least(account), model.least(account));
+        due("global " + app + " " + k, ledger.global(app, k), model.global(app, k));
+        due("local " + app + " " + account + " " + local, ledger.local(app, account, local), model.local(app, account, local));
+        due("count " + what, ledger.count(what), model.count(what));
+        due("report " + k, ledger.report(k), model.report(k));
+        due("logged " + what, ledger.logged(what), model.logged(what));
+    }
+
     private void emit(String code, int a) {
-        check.due(name + "emit", ledger.emit(Scene.CODES.indexOf(code), a), model.emit(code, a));
+        int number = rarelyWrong(Scene.CODES.indexOf(code));
+        int operand = rarelyWrong(a);
+        due("emit", ledger.emit(number, operand), model.emit(number, operand));
     }
 
     /** Mostly instructions whose VALUES are there, so that runs come far; sometimes any. */
@@ -110,7 +166,8 @@ final class ModelTest {
             emit("NUM", below(12) == 0 ? 0 : 1);
             emit("RETURN", 0);
         }
-        check.due(name + "deploy", ledger.deploy(app), model.deploy(app));
+        int to = rarelyWrong(app);
+        due("deploy", ledger.deploy(to), model.deploy(to));
     }
 
     private void emitOne(List<Character> sorts, int n) {
@@ -183,26 +240,26 @@ final class ModelTest {
 
     private void compareAll() {
         for (int account = 0; account < 6; account++) {
-            check.due(name + "balance", ledger.balance(account), model.valueOf("balance " + account));
-            check.due(name + "least", ledger.least(account), model.least(account));
+            due("balance", ledger.balance(account), model.balance(account));
+            due("least", ledger.least(account), model.least(account));
         }
         for (int app = 0; app < 4; app++) {
             for (int k = 0; k < 4; k++) {
-                check.due(name + "global", ledger.global(app, k), model.valueOf("global " + app + " " + k));
+                due("global", ledger.global(app, k), model.global(app, k));
             }
             for (int account = 0; account < 6; account++) {
-                check.due(name + "local 0", ledger.local(app, account, 0), model.local(app, account, 0));
-                check.due(name + "local 1", ledger.local(app, account, 1), model.local(app, account, 1));
+                due("local 0", ledger.local(app, account, 0), model.local(app, account, 0));
+                due("local 1", ledger.local(app, account, 1), model.local(app, account, 1));
             }
         }
         for (int what = 0; what < 4; what++) {
-            check.due(name + "report " + what, ledger.report(what), model.report(what));
+            due("report " + what, ledger.report(what), model.report(what));
         }
         for (int k = 0; k < 10; k++) {
-            check.due(name + "logged " + k, ledger.logged(k), model.logged(k));
+            due("logged " + k, ledger.logged(k), model.logged(k));
         }
         for (int what = 0; what < 9; what++) {
-            check.due(name + "count " + what, ledger.count(what), model.count(what));
+            due("count " + what, ledger.count(what), model.count(what));
         }
     }
 }
