@@ -143,7 +143,8 @@ final class ModelTest {
         due("balance " + account, ledger.balance(account), model.balance(account));
         due("least " + account, ledger.least(account), model.least(account));
         due("global " + app + " " + k, ledger.global(app, k), model.global(app, k));
-        due("local " + app + " " + account + " " + local, ledger.local(app, account, local), model.local(app, account, local));
+        int want = model.local(app, account, local);
+        due("local " + app + " " + account + " " + local, ledger.local(app, account, local), want);
         due("count " + what, ledger.count(what), model.count(what));
         due("report " + k, ledger.report(k), model.report(k));
         due("logged " + what, ledger.logged(what), model.logged(what));

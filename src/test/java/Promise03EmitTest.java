@@ -77,7 +77,7 @@ final class Promise03EmitTest {
         check.sentence("any int if none is: it changes nothing of what the instruction does");
         for (int a : new int[] {Check.MIN_INT, -1, Check.MAX}) {
             GroupLedger ledger = Scene.funded(100);
-            for (String code : new String[] {"SIZE", "INDEX", "ADD", "DUP", "LOG", "SENDER", "BALANCE", "SWAP", "RETURN"}) {
+            for (String code : "SIZE INDEX ADD DUP LOG SENDER BALANCE SWAP RETURN".split(" ")) {
                 ledger.emit(Scene.CODES.indexOf(code), a);
             }
             ledger.deploy(0);

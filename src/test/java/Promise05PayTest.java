@@ -14,7 +14,8 @@ final class Promise05PayTest {
     }
 
     private static void itsPlace(Check check) {
-        check.sentence("Puts a payment of amount 0 .. MAX from account 0 .. 5 to account 0 .. 5 into the DRAFT: its place.");
+        check.sentence("Puts a payment of amount 0 .. MAX from account 0 .. 5 to account 0 .. 5"
+                + " (perhaps the same) into the DRAFT: its place.");
         GroupLedger ledger = Scene.funded(100, 100);
         check.due("pay(0, 5, 0)", ledger.pay(0, 5, 0), 0);
         check.due("pay(5, 0, MAX)", ledger.pay(5, 0, Check.MAX), 1);
